@@ -1,7 +1,9 @@
 /** Counts the calls whose answer is not the one that is due; every test ends with done(). */
 final class Check {
+    private static int cases = 0;
     private static int checked = 0;
     private static int wrong = 0;
+    private static String running = "";
 
     private Check() {
     }
@@ -14,6 +16,32 @@ final class Check {
     /** A call that answers nothing. */
     interface Act {
         void act();
+    }
+
+    /** Makes an object in the state that a call is looked at in. */
+    interface Maker {
+        FewBits make();
+    }
+
+    /** A call of an object. */
+    interface Use {
+        void on(FewBits bits);
+    }
+
+    /** One case by itself, told by its name if an answer in it is wrong. */
+    static void test(String name, Act act) {
+        cases++;
+        running = name + ": ";
+        int before = checked;
+        try {
+            act.act();
+        } catch (RuntimeException e) {
+            tell("the case", "throws " + e, "an answer");
+        }
+        if (checked == before) {
+            tell("the case", "looks at nothing", "an answer");
+        }
+        running = "";
     }
 
     static void due(String what, long got, long want) {
@@ -44,6 +72,13 @@ final class Check {
         }), "throws." + want.getSimpleName());
     }
 
+    /** A call that throws and changes nothing: a second object that was never called so is as this one. */
+    static void refused(String what, Class<? extends RuntimeException> want, Maker maker, Use use) {
+        FewBits bits = maker.make();
+        dueThrow(what, want, () -> use.on(bits));
+        dueText(what + ", the state behind it", state(bits), state(maker.make()));
+    }
+
     /** The answer of a call as a text, or the exception that it throws. */
     static String outcome(Call call) {
         try {
@@ -67,8 +102,32 @@ final class Check {
         return text.append("no end").toString();
     }
 
+    static void dueCells(String what, FewBits bits, int f, int... want) {
+        StringBuilder text = new StringBuilder();
+        for (int cell : want) {
+            text.append(cell).append(' ');
+        }
+        dueText(what, cells(bits, f), text.append("throws.IndexOutOfBoundsException").toString());
+    }
+
+    /** What can be seen of all four filters. An object answers 512 calls, so they have to be small. */
+    static String state(FewBits bits) {
+        StringBuilder text = new StringBuilder();
+        for (int f = 0; f < 4; f++) {
+            int filter = f;
+            text.append("filter ").append(f).append(": ");
+            for (int what = 0; what < 6; what++) {
+                int which = what;
+                text.append(outcome(() -> bits.count(filter, which))).append(' ');
+            }
+            text.append("cells ").append(cells(bits, f)).append("; ");
+        }
+        return text.toString();
+    }
+
     static void done() {
-        System.out.println(checked + " answers looked at, " + wrong + " of them wrong");
+        String counted = cases == 0 ? "" : cases + " cases, ";
+        System.out.println(counted + checked + " answers looked at, " + wrong + " of them wrong");
         if (wrong != 0 || checked == 0) {
             System.exit(1);
         }
@@ -76,6 +135,6 @@ final class Check {
 
     private static void tell(String what, String got, String want) {
         wrong++;
-        System.out.println(what + ": answered " + got + ", due is " + want);
+        System.out.println(running + what + ": answered " + got + ", due is " + want);
     }
 }
