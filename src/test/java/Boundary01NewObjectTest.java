@@ -7,6 +7,7 @@ public final class Boundary01NewObjectTest {
     private static final Class<IllegalStateException> STATE = IllegalStateException.class;
 
     public static void main(String[] args) {
+        Check.test("NONE = -1", () -> Check.due("NONE", FewBits.NONE, -1));
         for (int f = 0; f <= 3; f++) {
             int filter = f;
             Check.test("FILTERS 0 .. 3, none of them at first: " + f, () -> isNoneAtFirst(filter));

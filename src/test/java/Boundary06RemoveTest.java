@@ -177,7 +177,10 @@ public final class Boundary06RemoveTest {
         Check.test("refused when its pair is not there: before all", () -> noPair(0, 0));
         Check.test("refused when its pair is not there: behind all", () -> noPair(3, 15));
         Check.test("removed from a full circle: runs go back to their slots", Boundary06RemoveTest::fromAFullCircle);
+        Check.test("removed from a full circle: of 256, the first, the last and one in the midst",
+            Boundary06RemoveTest::fromAFullCircleOf256);
         Check.test("removed over the end: runs go back to their slots", Boundary06RemoveTest::overTheEnd);
+        Check.test("removed: its slot is claimed no more, but used still", Boundary06RemoveTest::claimedNoMore);
         Check.test("removed by one that looks the same", Boundary06RemoveTest::looksTheSame);
     }
 
@@ -202,6 +205,24 @@ public final class Boundary06RemoveTest {
         Check.dueCells("2: 1 and 2, 3: 3 in slot 0, 0: 4 in slot 1", bits, 0, 29, 36, 9, 23);
         Check.due("remove", bits.remove(0, Items.pair(2, 4, 2, 2, 0)), 3);
         Check.dueCells("each in its own", bits, 0, 33, 0, 9, 25);
+    }
+
+    private static void fromAFullCircleOf256() {
+        FewBits bits = Sample.one(0, 3, 8, 20);
+        Check.due("addAll", bits.addAll(0, 0, 1, 400), 256);
+        int[] items = {0, 255, 100};
+        for (int i = 0; i < items.length; i++) {
+            Check.due("remove " + items[i], bits.remove(0, items[i]), 255 - i);
+            Check.due("it is not there", bits.has(0, items[i]), false);
+        }
+        Check.due("the others are there", bits.hasAll(0, 0, 1, 256), 253);
+    }
+
+    private static void claimedNoMore() {
+        FewBits bits = Sample.runs(2, 1, 2, 2, 3, 3);
+        Check.dueCells("2: 1 and 2, 3: 3 in slot 0", bits, 0, 28, 0, 9, 23);
+        bits.remove(0, Items.pair(2, 4, 3, 3, 0));
+        Check.dueCells("2: 1 and 2", bits, 0, 0, 0, 9, 22);
     }
 
     private static void overTheEnd() {

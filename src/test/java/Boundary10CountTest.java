@@ -42,6 +42,8 @@ public final class Boundary10CountTest {
         Check.test("counters above 0: the first and the last", () -> counted(2, 1, 0, 7));
         Check.test("counters above 0, the greatest: the last of 1024", Boundary10CountTest::lastOf1024);
         Check.test("counters above 0: not what is back to 0", Boundary10CountTest::backToZero);
+        Check.test("the greatest counter: the first", () -> greatestAt(0));
+        Check.test("the greatest counter: the last", () -> greatestAt(7));
         Check.test("the greatest counter: 15, and not 16 by what is refused", Boundary10CountTest::greatest);
     }
 
@@ -63,6 +65,13 @@ public final class Boundary10CountTest {
         bits.add(0, Items.places(3, 3));
         bits.remove(0, Items.places(3, 2));
         due(bits, 0, 1, 3, 1, 1, 1, 1);
+    }
+
+    private static void greatestAt(int place) {
+        FewBits bits = Sample.counters(3, 1);
+        bits.add(0, Items.places(3, 3));
+        bits.addAll(0, Items.places(3, place), 0, 2);
+        due(bits, 0, 1, 3, 1, 3, 2, 2);
     }
 
     private static void greatest() {
@@ -128,6 +137,8 @@ public final class Boundary10CountTest {
         Check.test("the longest row: all slots, one run", () -> longest(4, 2, 1, 2, 1, 2, 1, 2, 1));
         Check.test("the longest row: all of 256", Boundary10CountTest::longestOf256);
         Check.test("the longest row: not the one that is over the end", Boundary10CountTest::longestInTheMidst);
+        Check.test("the longest row round about: longer behind the end than before it",
+            Boundary10CountTest::longestBehindTheEnd);
         Check.test("the longest row: shorter when one was removed", Boundary10CountTest::shorter);
     }
 
@@ -145,6 +156,12 @@ public final class Boundary10CountTest {
         FewBits bits = Sample.one(0, 3, 3, 4);
         Sample.addPairs(bits, 0, 3, 4, 7, 1, 7, 2, 2, 1, 2, 2, 2, 3);
         due(bits, 0, 3, 3, 4, 5, 5, 3);
+    }
+
+    private static void longestBehindTheEnd() {
+        FewBits bits = Sample.one(0, 3, 3, 4);
+        Sample.addPairs(bits, 0, 3, 4, 6, 1, 7, 2, 0, 3, 1, 4, 2, 5, 3, 6);
+        due(bits, 0, 3, 3, 4, 6, 6, 6);
     }
 
     private static void shorter() {

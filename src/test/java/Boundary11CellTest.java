@@ -142,7 +142,8 @@ public final class Boundary11CellTest {
         runCells("as many pairs as slots: the last run begins behind the end", "1 1 1 2 1 3 2 4", 36, 9, 23, 30);
         Check.test("as many pairs as slots: of eight, four runs", Boundary11CellTest::eightSlots);
         Check.test("the greatest remainder of 20 bits", Boundary11CellTest::twentyBits);
-        Check.test("all 256 slots, one run from the last slot on", Boundary11CellTest::longestRun);
+        Check.test("all 256 slots, one run from the first slot on", () -> longestRun(0));
+        Check.test("all 256 slots, one run from the last slot on", () -> longestRun(255));
     }
 
     private static void runCells(String what, String pairs, int... want) {
@@ -184,12 +185,11 @@ public final class Boundary11CellTest {
         Check.due("slot 1", bits.cell(0, 1), 0);
     }
 
-    private static void longestRun() {
+    private static void longestRun(int quotient) {
         FewBits bits = Sample.one(0, 3, 8, 4);
-        Check.due("addAll", bits.addAll(0, Items.pair(8, 4, 255, 7, 0), 0, 400), 256);
-        Check.due("slot 255", bits.cell(0, 255), 57);
-        for (int i = 0; i < 255; i++) {
-            Check.due("slot " + i, bits.cell(0, i), 62);
+        Check.due("addAll", bits.addAll(0, Items.pair(8, 4, quotient, 7, 0), 0, 400), 256);
+        for (int i = 0; i < 256; i++) {
+            Check.due("slot " + i, bits.cell(0, i), i == quotient ? 57 : 62);
         }
     }
 }

@@ -281,11 +281,16 @@ final class Model {
             throw new IllegalStateException();
         }
         One one = filters[f];
-        int cells = one.kind == 3 ? 1 << one.a : one.cells.size();
-        if (i < 0 || i >= cells) {
+        if (i < 0 || i >= cells(f)) {
             throw new IndexOutOfBoundsException();
         }
         return one.kind == 3 ? slot(one, i) : one.cells.get(i);
+    }
+
+    /** How many cells a filter has; none has none. */
+    int cells(int f) {
+        One one = filters[f];
+        return one == null ? 0 : one.kind == 3 ? 1 << one.a : one.cells.size();
     }
 
     private static int slot(One one, int i) {

@@ -2,14 +2,17 @@ import java.util.Random;
 
 /** Runs of calls drawn from fixed seeds, each answer and each state compared with the model's. */
 public final class ModelTest {
-    private static final int RUNS = 200;
-    private static final int CALLS = 300;
+    private static final int RUNS = 400;
+    // An object answers 512 calls. A draw makes four of them at most; the rest is for the look at the end.
+    private static final int DRAWN_CALLS = 360;
+    private static final int MOST_CALLS = 512;
 
     private final Random random;
     private final FewBits bits = new FewBits();
     private final Model model = new Model();
     private final int run;
     private final int items;
+    private int calls = 0;
 
     private ModelTest(int run) {
         this.run = run;
@@ -20,9 +23,10 @@ public final class ModelTest {
     public static void main(String[] args) {
         for (int run = 0; run < RUNS; run++) {
             ModelTest test = new ModelTest(run);
-            for (int call = 0; call < CALLS; call++) {
+            while (test.calls < DRAWN_CALLS) {
                 test.call();
             }
+            test.compareCounts();
             test.compareCells();
         }
         Check.done();
@@ -42,6 +46,7 @@ public final class ModelTest {
     }
 
     private void compare(String what, Check.Call got, Check.Call want) {
+        calls++;
         Check.dueText("run " + run + ": " + what, Check.outcome(got), Check.outcome(want));
     }
 
@@ -113,21 +118,29 @@ public final class ModelTest {
         compare("cell(" + f + ", " + i + ")", () -> bits.cell(f, i), () -> model.cell(f, i));
     }
 
-    private void compareCells() {
+    private void compareCounts() {
         for (int f = 0; f < 4; f++) {
-            int filter = f;
-            boolean more = true;
-            for (int i = 0; i < 1025 && more; i++) {
-                int at = i;
-                String want = Check.outcome(() -> model.cell(filter, at));
-                Check.dueText("run " + run + ": at the end cell(" + f + ", " + i + ")",
-                    Check.outcome(() -> bits.cell(filter, at)), want);
-                more = !want.startsWith("throws.");
-            }
             for (int what = 0; what < 6; what++) {
+                int filter = f;
                 int which = what;
                 compare("at the end count(" + f + ", " + what + ")",
                     () -> bits.count(filter, which), () -> model.count(filter, which));
+            }
+        }
+    }
+
+    /** All cells of a small filter, those from a drawn one on of a large one. */
+    private void compareCells() {
+        for (int f = 0; f < 4; f++) {
+            int looks = (MOST_CALLS - calls) / (4 - f);
+            int size = model.cells(f);
+            int from = random.nextInt(Math.max(0, size + 1 - looks) + 1);
+            // The one behind the last is looked at, too: it must not be there.
+            for (int i = from; i <= size && i < from + looks; i++) {
+                int filter = f;
+                int at = i;
+                compare("at the end cell(" + f + ", " + i + ")",
+                    () -> bits.cell(filter, at), () -> model.cell(filter, at));
             }
         }
     }

@@ -12,8 +12,8 @@ public final class Promise03MakeTest {
     }
 
     private static void edges(int kind, int leastA, int mostA, int leastB, int mostB) {
-        FewBits bits = new FewBits();
         for (int a = leastA; a <= mostA; a++) {
+            FewBits bits = new FewBits();
             for (int b = leastB; b <= mostB; b++) {
                 bits.make(3, kind, a, b);
                 Check.due("its kind", bits.count(3, 0), kind);

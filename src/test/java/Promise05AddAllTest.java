@@ -10,17 +10,16 @@ public final class Promise05AddAllTest {
 
     private static void asManyAsOneByOne() {
         for (int kind = 1; kind <= 3; kind++) {
-            FewBits bits = new FewBits();
-            bits.make(0, kind, 8, 6);
-            bits.make(1, kind, 8, 6);
-            Check.due("addAll", bits.addAll(0, 5, -7, 100), 100);
-            for (int i = 0; i < 100; i++) {
-                bits.add(1, 5 - 7 * i);
+            FewBits bits = Sample.one(0, kind, 6, 6);
+            FewBits oneByOne = Sample.one(0, kind, 6, 6);
+            Check.due("addAll", bits.addAll(0, 5, -7, 40), 40);
+            for (int i = 0; i < 40; i++) {
+                oneByOne.add(0, 5 - 7 * i);
             }
-            Check.dueText("kind " + kind, Check.cells(bits, 0), Check.cells(bits, 1));
-            Check.due("how many", bits.count(0, 3), 100);
+            Check.dueText("kind " + kind, Check.cells(bits, 0), Check.cells(oneByOne, 0));
+            Check.due("how many", bits.count(0, 3), 40);
             Check.due("n is 0", bits.addAll(0, 5, 1, 0), 0);
-            Check.due("how many", bits.count(0, 3), 100);
+            Check.due("how many", bits.count(0, 3), 40);
         }
         FewBits bits = new FewBits();
         bits.make(0, 1, 10, 1);
